@@ -1,6 +1,6 @@
 import java.util.NoSuchElementException;
 
-/** Each promise of the document by itself: ordinary inputs, the edges, wrong inputs, and which exception comes first. */
+/** Each promise of the document by itself: ordinary inputs, edges, wrong inputs, and which exception comes first. */
 public final class PromisesTest {
     private static final Class<IllegalArgumentException> ARGUMENT = IllegalArgumentException.class;
     private static final Class<IllegalStateException> STATE = IllegalStateException.class;

@@ -1,10 +1,5 @@
-import java.lang.reflect.InvocationTargetException;
 import java.lang.reflect.Method;
-import java.lang.reflect.Modifier;
-import java.util.ArrayList;
 import java.util.Arrays;
-import java.util.Comparator;
-import java.util.List;
 import java.util.Set;
 import java.util.TreeSet;
 
@@ -22,24 +17,16 @@ public final class RunsTest {
 
     private final Check check = new Check();
     private final Set<String> kinds = new TreeSet<>();
-    private final List<Method> methods = new ArrayList<>();
     private StartChain chain = null;
     private ChainModel model = null;
     private int calls = 0;
     private long row = 20261119L;
 
-    public static void main(String[] args) throws ReflectiveOperationException {
+    public static void main(String[] args) {
         new RunsTest().run();
     }
 
-    private void run() throws ReflectiveOperationException {
-        for (Method method : StartChain.class.getDeclaredMethods()) {
-            if (Modifier.isPublic(method.getModifiers())) {
-                methods.add(method);
-            }
-        }
-        // The order of getDeclaredMethods is not told.
-        methods.sort(Comparator.comparing(Method::getName));
+    private void run() {
         for (int object = 0; object < OBJECTS; object++) {
             runObject(object);
         }
@@ -47,7 +34,7 @@ public final class RunsTest {
         check.finish();
     }
 
-    private void runObject(int object) throws ReflectiveOperationException {
+    private void runObject(int object) {
         chain = new StartChain();
         model = new ChainModel();
         calls = 0;
@@ -57,7 +44,7 @@ public final class RunsTest {
             prepare();
         }
         while (calls < CALLS) {
-            Method method = methods.get(choose(methods.size()));
+            Method method = Calls.FACE.get(choose(Calls.FACE.size()));
             Object[] arguments = arguments(method, isWild ? 6 : 60);
             if (isWild || !isLeftOut(method.getName(), arguments)) {
                 compare(method, arguments);
@@ -65,15 +52,15 @@ public final class RunsTest {
         }
     }
 
-    private void prepare() throws ReflectiveOperationException {
-        compare(named("setTrusted"), 1, true);
-        compare(named("setTrusted"), 2, true);
+    private void prepare() {
+        compare(Calls.named("setTrusted"), 1, true);
+        compare(Calls.named("setTrusted"), 2, true);
         int stages = 1 + choose(6);
         for (int stage = 0; stage < stages; stage++) {
-            compare(named("addStage"), choose(3));
-            compare(named("install"), stage, 1 + choose(2), 1 + choose(10), MEASURES[choose(MEASURES.length)]);
+            compare(Calls.named("addStage"), choose(3));
+            compare(Calls.named("install"), stage, 1 + choose(2), 1 + choose(10), MEASURES[choose(MEASURES.length)]);
         }
-        compare(named("start"));
+        compare(Calls.named("start"));
     }
 
     /** Calls that end runs are left out mostly, as there would hardly be a machine that runs for the others. */
@@ -98,26 +85,16 @@ public final class RunsTest {
         }
     }
 
-    private void compare(Method method, Object... arguments) throws ReflectiveOperationException {
+    private void compare(Method method, Object... arguments) {
         calls++;
-        String got = answer(chain, method, arguments);
-        Method same = ChainModel.class.getMethod(method.getName(), method.getParameterTypes());
-        String due = answer(model, same, arguments);
+        String got = Calls.answer(chain, method, arguments);
+        String due = Calls.answer(model, method, arguments);
         check.same("call " + calls + ": " + method.getName() + Arrays.toString(arguments), due, got);
         kinds.add(method.getName() + " " + kindOf(due));
     }
 
-    private Method named(String name) {
-        for (Method method : methods) {
-            if (method.getName().equals(name)) {
-                return method;
-            }
-        }
-        throw new IllegalStateException("no method " + name);
-    }
-
     private static String kindOf(String answer) {
-        return answer.startsWith("throws") || answer.length() == 1 || Character.isLetter(answer.charAt(0))
+        return Calls.isThrown(answer) || answer.length() == 1 || Character.isLetter(answer.charAt(0))
                 ? answer : "number";
     }
 
@@ -172,18 +149,8 @@ public final class RunsTest {
         }
     }
 
-    private static String answer(Object on, Method method, Object[] arguments) throws ReflectiveOperationException {
-        try {
-            return String.valueOf(method.invoke(on, arguments));
-        } catch (InvocationTargetException e) {
-            Throwable thrown = e.getCause();
-            boolean own = on instanceof ChainModel || Check.isThrownByStartChain(thrown);
-            return "throws " + thrown.getClass().getSimpleName() + (own ? "" : " by the machine");
-        }
-    }
-
     private void checkKinds() {
-        for (Method method : methods) {
+        for (Method method : Calls.FACE) {
             for (Class<?> kind : method.getExceptionTypes()) {
                 needKind(method.getName() + " throws " + kind.getSimpleName());
             }
